@@ -650,7 +650,7 @@ public final class TeleprinterTape {
             if (!target.add(code)) {
                 ranOut = true;
             }
-            present = target.caseAfter(code, present);
+            present = Code.caseAfter(code, present, target.unshift);
         }
 
         private void shiftFor(int character) {
