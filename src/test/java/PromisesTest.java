@@ -494,14 +494,11 @@ public final class PromisesTest {
 
     private static void distance(String one, String other, int want) {
         Run run = Run.of("33 " + one + " and " + other).message(one);
-        run.object().encodeMessage();
-        run.object().save(1);
-        for (int left = run.object().length(); left > 0; left--) {
-            run.object().remove(0);
+        run.calls("encodeMessage(); save(1)");
+        for (int left = run.ask("length"); left > 0; left--) {
+            run.ask("remove", 0);
         }
-        run.object().clearMessage();
-        run.message(other);
-        run.object().encodeMessage();
+        run.calls("clearMessage()").message(other).calls("encodeMessage()");
         run.prints(other).calls("editDistance(1) = " + want);
     }
 }
