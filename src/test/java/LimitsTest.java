@@ -390,6 +390,17 @@ public final class LimitsTest {
             + confidence(2, 7, 3, 10));
         Run.of("a space that unshifts is never lost").punched(29, 26, 0).calls("setUnshiftOnSpace(1) = 0;" + confidence(2, 10, 1, 1)
             + confidence(2, 3, 1, 1) + confidence(1, 3, 7, 10));
+        Run.of("a space that unshifts: what was lost before it does not count behind it").punched(29, 26, 29, 0).calls(
+            "setUnshiftOnSpace(1) = 0;" + confidence(3, 3, 7, 10) + confidence(3, 10, 0, 1));
+        Run.of("start case figures: a shift to letters is lost").calls("setStartCase(1) = 0").punched(30, 0).calls(
+            confidence(0, 3, 1, 1) + confidence(1, 3, 7, 10) + confidence(1, 0, 1, 1) + confidence(1, 10, 0, 1));
+        Run.of("start case figures: a shift to figures is of no account").calls("setStartCase(1) = 0").punched(29, 0).calls(
+            confidence(1, 3, 1, 1) + confidence(1, 10, 1, 1));
+        // 0.3 * 0.3 of both lost, 0.7 of the last one not lost
+        Run.of("two shifts to letters from figures").calls("setStartCase(1) = 0").punched(30, 30, 0).calls(
+            confidence(2, 3, 91, 100) + confidence(2, 10, 0, 1) + confidence(2, 9, 19, 100));
+        Run.of("there, back and there again").punched(29, 30, 29, 30, 0).calls(confidence(1, 3, 7, 10) + confidence(2, 3, 79, 100)
+            + confidence(3, 3, 763, 1000) + confidence(4, 3, 7711, 10000) + confidence(4, 10, 1, 1) + confidence(3, 10, 0, 1));
         Run.of("the case of the code itself does not matter").punched(29, 31, 30).calls(confidence(1, 3, 7, 10)
             + confidence(2, 3, 7, 10));
     }
