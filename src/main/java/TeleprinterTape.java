@@ -724,19 +724,29 @@ public final class TeleprinterTape {
         }
 
         void remember(Tape tape) {
-            states[next].become(tape);
+            Tape state = stateAt(next);
+            if (state == null) {
+                return;
+            }
+            state.become(tape);
             next = (next + 1) % MOST_REMEMBERED;
             count = Math.min(count + 1, MOST_REMEMBERED);
         }
 
         boolean bringBack(Tape tape) {
-            if (count == 0) {
+            int last = (next + MOST_REMEMBERED - 1) % MOST_REMEMBERED;
+            Tape state = stateAt(last);
+            if (count == 0 || state == null) {
                 return false;
             }
-            next = (next + MOST_REMEMBERED - 1) % MOST_REMEMBERED;
+            next = last;
             count--;
-            tape.become(states[next]);
+            tape.become(state);
             return true;
+        }
+
+        private Tape stateAt(int place) {
+            return place >= 0 && place < states.length ? states[place] : null;
         }
 
         void forgetAll() {
@@ -760,14 +770,14 @@ public final class TeleprinterTape {
         }
 
         void keep(int slot, Tape tape) {
-            if (has(slot)) {
+            if (has(slot) && states[slot] != null) {
                 states[slot].become(tape);
                 used[slot] = true;
             }
         }
 
         boolean bringBack(int slot, Tape tape) {
-            if (!has(slot) || !used[slot]) {
+            if (!has(slot) || !used[slot] || states[slot] == null) {
                 return false;
             }
             tape.become(states[slot]);
@@ -894,6 +904,9 @@ public final class TeleprinterTape {
         private int count = 0;
 
         void keep(int i, int character) {
+            if (next < 0 || next >= MOST_OBSERVATIONS) {
+                return;
+            }
             indexes[next] = i;
             characters[next] = character;
             next = (next + 1) % MOST_OBSERVATIONS;
@@ -990,7 +1003,7 @@ public final class TeleprinterTape {
         }
 
         int firstFailure(Tape copy, Text text) {
-            for (int k = 0; k < count; k++) {
+            for (int k = 0; k < count && k < groups.length; k++) {
                 if (!succeeds(groups[k], copy, text)) {
                     return k;
                 }
