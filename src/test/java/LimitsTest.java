@@ -471,7 +471,8 @@ public final class LimitsTest {
         Run.of("a space that unshifts spares a shift").calls("setUnshiftOnSpace(1) = 0").punched(1, 26, 1).message("1 B")
             .calls("repair() = 1").tape(29, 1, 26, 1);
         Run.of("The codes of the tape stay, a wrong shift too").punched(29, 1).message("B").calls("repair() = 1").tape(29, 30, 1);
-        Run.of("before the code from 0 to 25 that needs it: 0 and 25").punched(0, 25).message("0Z").calls("repair() = 2").tape(29, 0, 30, 25);
+        Run.of("before the code from 0 to 25 that needs it: 0 and 25").punched(0, 25).message("0Z").calls("repair() = 2")
+            .tape(29, 0, 30, 25);
         Run.of("a second repair has nothing to do").punched(1).message("1").calls("repair() = 1; repair() = 0; undo() = 2");
     }
 
@@ -737,9 +738,10 @@ public final class LimitsTest {
     // ---- the life of an object
 
     private static void lastCall() {
-        Run.of("An object is used for at most 512 calls: the last of them too").calls("punch(1) * 96 = 96; punch(1) = FULL; remove(0) * 96 = 1; punch(2) * 96 = 96;"
-            + "remove(0) * 96 = 2; append(49) * 60 = 60; append(49) = FULL; observe(95, 255) * 20 = 6; undo() * 14 = 0;"
-            + "undo() = NOT_POSSIBLE; punch(29) * 20 = 34; compact() = 20; codeAt(13) = 2; save(1) = 14; restore(1) = 14;"
+        Run.of("An object is used for at most 512 calls: the last of them too").calls("punch(1) * 96 = 96;"
+            + "punch(1) = FULL; remove(0) * 96 = 1; punch(2) * 96 = 96; remove(0) * 96 = 2; append(49) * 60 = 60;"
+            + "append(49) = FULL; observe(95, 255) * 20 = 6; undo() * 14 = 0; undo() = NOT_POSSIBLE;"
+            + "punch(29) * 20 = 34; compact() = 20; codeAt(13) = 2; save(1) = 14; restore(1) = 14;"
             + "encodeWrapped() = 75; undo() = 0; encodeMessage() = 75; editDistance(1) = 60; undo() = 0; length() = 14;"
             + "possibleSettings() = 0");
     }

@@ -190,6 +190,8 @@ public final class SentencesTest {
         doc.says("To encode a character means to append codes to the tape: if the character is printed only in the case in which the"
             + " decoder is not after all codes of the tape so far, then the shift code to that case is appended first;")
             .punched(29, 31).message("7H7").calls("encodeMessage() = 7").tape(29, 31, 7, 30, 7, 29, 7);
+        doc.again().message("0A$Z").calls("encodeMessage() = 8; setStartCase(1) = 0; encodeMessage() = 16")
+            .tape(29, 0, 30, 0, 29, 25, 30, 25, 29, 0, 30, 0, 29, 25, 30, 25);
         doc.again().punched(29).message(" \n\r").calls("encodeMessage() = 4; setStartCase(1) = 0; encodeMessage() = 7")
             .tape(29, 26, 27, 28, 26, 27, 28);
         doc.again().calls("setUnshiftOnSpace(1) = 0").punched(29, 26).message("1 1A").calls("encodeMessage() = 9")
@@ -210,6 +212,11 @@ public final class SentencesTest {
         equal.tape();
         doc.says("The object remembers the state before each of the last 14 actions;").calls("punch(1) * 14 = 14; undo() = 13;"
             + "length() = 13; undo() * 13 = 0; length() = 0; undo() = NOT_POSSIBLE");
+        doc.again().punched(29, 0).message("0").calls("encodeMessage() = 3; encodeWrapped() = 4; remove(0) = 29; flip(0, 0) = 1;"
+            + "compact() = 0; setStartCase(1) = 0; setUnshiftOnSpace(1) = 0; setWidth(9) = 20; punch(31) = 4; undo() = 10")
+            .tape(1, 0, 0).calls("undo() = 9; cell(0, 19) = 0; undo() = 8").tape(1, 0, 0).calls("undo() = 7; caseAt(0) = 0")
+            .tape(1, 0, 0).calls("undo() = 6").tape(1, 0, 0).calls("undo() = 5").tape(0, 0, 0).calls("undo() = 4").tape(29, 0, 0, 0)
+            .calls("undo() = 3").tape(29, 0, 0).calls("undo() = 2").tape(29, 0);
         doc.says("when a fifteenth action happens, the oldest remembered state is forgotten.").calls("punch(1) * 15 = 15; undo() = 13;"
             + "undo() * 13 = 0; length() = 1; undo() = NOT_POSSIBLE; length() = 1");
         doc.says("The message buffer, the observations and the save slots are not part of the state.").calls("punch(1) = 1;"
@@ -433,9 +440,11 @@ public final class SentencesTest {
             "runScript(1, 790) = NONE; runScript(1, 789) = 0").punched(28).calls("runScript(1, 713) = NONE; runScript(1, 790) = 0");
         Run others = doc.says("Any other group fails.");
         for (int group = 0; group < 100; group++) {
-            others.calls("runScript(1, " + group + ") = 0; runScript(1, " + (800 + group) + ") = 0; runScript(1, " + (900 + group) + ") = 0");
+            others.calls("runScript(1, " + group + ") = 0; runScript(1, " + (800 + group) + ") = 0;"
+                + "runScript(1, " + (900 + group) + ") = 0");
         }
-        Run middle = doc.again();
+        // so long a text that a 5 or a 6 in place of the 3 and the 4 would succeed
+        Run middle = doc.again().calls("setStartCase(1) = 0; punch(0) * 95 = 95");
         for (int group = 2; group < 100; group++) {
             middle.calls("runScript(1, " + (300 + group) + ") = 0; runScript(1, " + (400 + group) + ") = 0");
         }
@@ -632,7 +641,7 @@ public final class SentencesTest {
         doc.says("NOT_POSSIBLE if some character is not encodable;").message("AB@").calls("encodeMessage() = NOT_POSSIBLE; length() = 0;"
             + "punch(0) * 96 = 96; encodeMessage() = NOT_POSSIBLE");
         doc.says("FULL if the tape would have more than 96 codes.").message("A1").calls("punch(0) * 93 = 93; encodeMessage() = 96;"
-            + "undo() = 13; punch(0) = 94; encodeMessage() = FULL; length() = 94; undo() = 13; length() = 93");
+            + "undo() = 13; punch(0) = 94; encodeMessage() = FULL; length() = 94; undo() = 13; length() = 93; encodeMessage() = 96");
         promise(12, "encodeWrapped", "int encodeWrapped()");
         doc.says("Encodes the wrapped message of the page width, behind the codes that are on the tape: the characters of a line, one"
             + " space between two words of a line.").punched(29, 0, 0, 0).message("12   3\n45").calls("setWidth(5) = 20;"
@@ -647,7 +656,8 @@ public final class SentencesTest {
         doc.says("NOT_POSSIBLE if some character of the message is not encodable;").message("A @").calls(
             "encodeWrapped() = NOT_POSSIBLE; length() = 0; punch(0) * 96 = 96; encodeWrapped() = NOT_POSSIBLE");
         doc.says("FULL if the tape would have more than 96 codes.").message("ABCDE F").calls("setWidth(5) = 20; punch(0) * 87 = 87;"
-            + "encodeWrapped() = 96; undo() = 13; punch(0) = 88; encodeWrapped() = FULL; length() = 88; undo() = 13; length() = 87");
+            + "encodeWrapped() = 96; undo() = 13; punch(0) = 88; encodeWrapped() = FULL; length() = 88; undo() = 13; length() = 87;"
+            + "encodeWrapped() = 96");
     }
 
     private static void promisesOfChanging() {
@@ -681,7 +691,7 @@ public final class SentencesTest {
             + "repair() = NOT_POSSIBLE; append(66) = 3; repair() = NOT_POSSIBLE; undo() = 1; length() = 1");
         doc.says("FULL if the tape would have more than 96 codes.").calls("punch(31) * 94 = 94; punch(1) = 95; append(49) = 1;"
             + "repair() = 1; length() = 96; undo() = 13; punch(31) = 96; repair() = FULL; length() = 96; codeAt(94) = 1; undo() = 13;"
-            + "length() = 95");
+            + "length() = 95; repair() = 1");
     }
 
     private static void promisesOfSettings() {
@@ -866,6 +876,9 @@ public final class SentencesTest {
             + " single characters that turn one into the other;").calls("save(0) = 0; editDistance(0) = 0; punch(0) = 1;"
             + "editDistance(0) = 1; save(1) = 1; flip(0, 0) = 1; editDistance(1) = 1; punch(0) = 2; editDistance(1) = 1;"
             + "save(1) = 2; remove(0) = 1; editDistance(1) = 1; punch(1) = 2; editDistance(1) = 2; editDistance(0) = 2");
+        doc.again().punched(0, 1, 2).calls("save(0) = 3; remove(2) = 2; editDistance(0) = 1; remove(0) = 0; editDistance(0) = 2;"
+            + "undo() = 4; undo() = 3; remove(1) = 1; editDistance(0) = 1; undo() = 3; punch(3) = 4; editDistance(0) = 1;"
+            + "punch(3) = 5; editDistance(0) = 2");
         // KITTEN and SITTING
         doc.again().punched(10, 8, 19, 19, 4, 13).calls("save(1) = 6; remove(0) * 6 = 13").punched(18, 8, 19, 19, 8, 13, 6).calls(
             "editDistance(1) = 3");
