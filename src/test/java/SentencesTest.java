@@ -8,8 +8,9 @@ import java.util.regex.Matcher;
 import java.util.regex.Pattern;
 
 /**
- * The document from its first line to its last: every sentence in its own words and order, with runs that go wrong if the
- * sentence does not hold. {@link Document} sees to it that none is left out.
+ * The document from its first line to its last: every sentence in its own words and order, and with each that asks
+ * something of the class, or with the last of several that ask it together, runs that go wrong if it does not hold.
+ * {@link Document} sees to it that none is left out.
  */
 public final class SentencesTest {
     private static final int MOST = Integer.MAX_VALUE;
